@@ -180,8 +180,15 @@ public final class PromiseTest {
         due(3, "goBack(0) behind a new coast", x.goBack(0), NOT);
         due(3, "glass(0, 3)", x.glass(0, 3), 0);
         due(3, "seed(0)", x.seed(0), 0);
-        x.seed(91);
         x.day(1);
+        x.glad(2, 9);
+        x.hold(1, true);
+        feed(x, COAST);
+        due(3, "coast() again", x.coast(), 3);
+        told(3, x, 5, 3, 3, 0, 0, 5, 2, 5, 0, 0, 0, 0, 0, 0, 0, 0);
+        x.day(1);
+        due(3, "the log begins anew", x.logged(0, 0) * 100 + x.logged(0, 1) * 10 + x.logged(0, 2), 572);
+        x.seed(91);
         due(3, "coast() of an empty text", x.coast(), 0);
         told(3, x, 0, 0, 0, 0, 0, NONE, 0, 0, 0, 0, 0, 0, 0, 0, 0, 0);
         due(3, "seed(0), which stays", x.seed(0), 91);
@@ -469,13 +476,15 @@ public final class PromiseTest {
         due(18, "undo(1): the day", x.undo(1) + x.told(8) + x.told(11) + x.told(12), 0);
         due(18, "told(15)", x.told(15), 0);
         x.day(30);
-        int caught = x.told(11), first = x.logged(19, 0);
+        int caught = x.told(11), first = x.logged(19, 0), weather = x.logged(19, 1), sailed = x.logged(19, 2);
         x.weigh(0, 9);
         due(18, "told(15), 30 at most", x.told(15), 30);
         x.day(20);
         due(18, "undo(20)", x.undo(20), 30);
         due(18, "the catch", x.told(11), caught);
-        due(18, "the log's oldest", x.logged(19, 0), first);
+        due(18, "what the log's oldest told", x.logged(19, 0), first);
+        due(18, "the log's oldest weather", x.logged(19, 1), weather);
+        due(18, "who sailed on the log's oldest day", x.logged(19, 2), sailed);
         due(18, "undo(11)", x.undo(11), NOT);
         due(18, "undo(10)", x.undo(10), 21);
         due(18, "undo(1)", x.undo(1), NOT);
@@ -486,6 +495,14 @@ public final class PromiseTest {
         due(18, "undo(2)", x.undo(2), 21);
         due(18, "the seed stays", x.seed(0), seed);
         due(18, "a drifted day is one deed", x.told(15), 0);
+        x = on("w9,0;b0 0;b5 1;");
+        x.day(21);
+        due(18, "the log's latest", x.logged(0, 1), 0);
+        x.hold(0, true);
+        x.day(25);
+        due(18, "undo(26)", x.undo(26), 21);
+        for (int i = 0; i < 20; i++) due(18, "logged(" + i + ", 1)", x.logged(i, 1), i % 2 == 0 ? 0 : 9);
+        for (int i = 0; i < 20; i++) due(18, "logged(" + i + ", 2)", x.logged(i, 2), 1);
     }
 
     private static void telling() {
@@ -605,6 +622,11 @@ public final class PromiseTest {
         due(25, "bestWeights(0)", x.bestWeights(0), 1);
         due(25, "bestWeights(1)", x.bestWeights(1), 2);
         due(25, "bestWeights(-1)", x.bestWeights(-1), 0);
+        // Reads 3 and 9: three to one would tell 4, but a weight is 2 at most; no weight comes first.
+        x = on("w4;g4 0;g10 0;");
+        due(25, "bestWeights(-1)", x.bestWeights(-1), 12);
+        due(25, "bestWeights(0), of like ones", x.bestWeights(0), 0);
+        due(25, "bestWeights(1), of like ones", x.bestWeights(1), 0);
         x = on("w3;g3 0;g9 0;");
         due(25, "bestWeights(0)", x.bestWeights(0), 2);
         due(25, "bestWeights(1)", x.bestWeights(1), 1);
@@ -630,6 +652,11 @@ public final class PromiseTest {
         due(26, "steps(0), glad", x.steps(0), NONE);
         due(26, "steps(1), glad", x.steps(1), 5);
         due(26, "temper stays", x.glass(0, 0), 5);
+        x = on("w9;g5 9;g5 9;g5 9;g5 9;g5 9;g5 9;g5 9;");
+        due(26, "steps(9), all that there can be", x.steps(9), 0);
+        due(26, "steps(8), all that there can be", x.steps(8), 1);
+        due(26, "steps(4), all that there can be", x.steps(4), 29);
+        due(26, "steps(3), all that there can be", x.steps(3), NONE);
     }
 
     private static void truth() {
@@ -638,6 +665,7 @@ public final class PromiseTest {
         due(27, "allTrue(7, 1)", x.allTrue(7, 1), 2);
         due(27, "allTrue(7, 2)", x.allTrue(7, 2), 2);
         due(27, "allTrue(3, 0)", x.allTrue(3, 0), 0);
+        due(27, "allTrue(1, 1)", on("w1;g9 1;").allTrue(1, 1), 4);
         due(27, "allTrue(3, 2)", x.allTrue(3, 2), 0);
         due(27, "allTrue(0, 1)", x.allTrue(0, 1), 0);
         due(27, "allTrue(8, 3)", x.allTrue(8, 3), UNKNOWN);
