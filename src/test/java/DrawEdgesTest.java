@@ -27,6 +27,23 @@ public final class DrawEdgesTest {
         throw new IllegalStateException("no such seed");
     }
 
+    /** The seed that becomes this one by a draw. */
+    private static int seedAhead(int seed) {
+        // 1857678181 undoes the factor: 1103515245 times it leaves 1 over by 2 to the 31.
+        return (int) Math.floorMod((seed - 12345L) * 1857678181L, 2147483648L);
+    }
+
+    private static void drawsAs(int glasses, int from) {
+        long first = next(from), second = next(first);
+        int g = drawn(first, glasses), on = drawn(second, 4);
+        GladGlasses x = driftOnce("w1;" + Edge.times(glasses, "g5 1;"), 0, from);
+        for (int k = 0; k < glasses; k++) {
+            Edge.due("glass(" + k + ", 0) of " + glasses + " from seed " + from, x.glass(k, 0), k != g ? 5 : on == 0 ? 6 : on == 1 ? 4 : 5);
+            Edge.due("glass(" + k + ", 3) of " + glasses + " from seed " + from, x.glass(k, 3), k != g || on != 2 ? 0 : Math.max(0, drawn(next(second), 4) - 1));
+        }
+        Edge.due("the seed behind " + from, seedOf(x), (int) (on == 2 ? next(second) : second));
+    }
+
     private static GladGlasses driftOnce(String text, int glad, int seed) {
         GladGlasses x = Edge.on(text);
         x.glad(0, glad);
@@ -85,6 +102,10 @@ public final class DrawEdgesTest {
                 for (int k = 0; k < 7; k++) Edge.due("glass(" + k + ", 0) from seed " + seed, x.glass(k, 0), k == g ? 5 : 4);
             }
             for (int g = 0; g < 7; g++) Edge.due("glass " + g + " was drawn", seen[g] ? 1 : 0, 1);
+        });
+        Edge.of("section 3", "the DRAW of n is it / 65536, left over by n", "from what is just below 65536, just there, the greatest; of 1 to 7 glasses", () -> {
+            for (int drawn : new int[] {0, 65535, 65536, 131071, 2147418111, 2147418112, 2147483647})
+                for (int glasses = 1; glasses <= 7; glasses++) drawsAs(glasses, seedAhead(drawn));
         });
         Edge.of("section 3", "on 0 its TEMPER is one more (10 at most; no DRINK goes)", "from 9, from 10; without drinks", () -> {
             int seed = seedFor(0, -1);
@@ -233,6 +254,17 @@ public final class DrawEdgesTest {
             before.set(15, 25);
             Edge.due("all else", Edge.allOf(x), before);
         });
+        Edge.of("section 3", "all of section 2 is as ahead of them; THE SEED stays.", "days that had gone from the log are in it again", () -> {
+            GladGlasses x = Edge.on("w1,2,3,4,5,6,7;g5 1;b4 0;");
+            x.day(21);
+            List<Integer> before = Edge.allOf(x);
+            x.hold(0, true);
+            x.glad(0, 60);
+            x.day(20);
+            x.undo(22);
+            before.set(15, 8);
+            Edge.due("all that can be looked at", Edge.allOf(x), before);
+        });
     }
 
     private static void howManyAreUndone() {
@@ -310,6 +342,17 @@ public final class DrawEdgesTest {
             x.hold(0, false);
             x.seed(2147483647);
             Edge.due("goBack(1)", x.goBack(1), 1);
+            Edge.due("all that can be looked at", Edge.allOf(x), kept);
+        });
+        Edge.of("section 3", "IMAGES 0, 1 keep all of section 2, THE SEED.", "days that have gone from the log since", () -> {
+            GladGlasses x = Edge.on("w1,2,3,4,5,6,7;g5 1;b4 0;");
+            x.day(21);
+            x.keep(0);
+            List<Integer> kept = Edge.allOf(x);
+            x.hold(0, true);
+            x.glad(0, 60);
+            x.day(25);
+            x.goBack(0);
             Edge.due("all that can be looked at", Edge.allOf(x), kept);
         });
         Edge.of("section 3", "IMAGES 0, 1 keep all of section 2, THE SEED.", "taps, the book and the text are not kept", () -> {

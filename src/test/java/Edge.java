@@ -6,6 +6,8 @@ import java.util.ArrayList;
 import java.util.HashMap;
 import java.util.List;
 import java.util.Map;
+import java.util.Set;
+import java.util.TreeSet;
 
 /**
  * A test of its own for an edge that a sentence of the document names. The sentence is looked up in
@@ -23,6 +25,7 @@ final class Edge {
 
     private static final Path DOCUMENT = Path.of("../shared/DOC.md");
     private static final Map<String, String> PARTS = new HashMap<>();
+    private static final Map<String, Set<String>> QUOTES = new HashMap<>();
 
     private static String now = "";
     private static int tests = 0;
@@ -34,6 +37,7 @@ final class Edge {
     static void of(String part, String sentence, String edge, Runnable test) {
         tests++;
         now = part + ", '" + sentence + "', " + edge;
+        QUOTES.computeIfAbsent(part, k -> new TreeSet<>()).add(sentence);
         if (!textOf(part).contains(sentence)) fail("the document does not say this there");
         try {
             test.run();
@@ -63,6 +67,9 @@ final class Edge {
         System.out.println(wrong == 0 ? tests + " edges are as the document says" : wrong + " answers at " + tests + " edges are not as the document says");
         if (wrong != 0 || tests == 0) System.exit(1);
     }
+
+    /** The sentences of a part that have had a test. */
+    static Set<String> quotesOf(String part) { return QUOTES.getOrDefault(part, Set.of()); }
 
     /** What the document says in a part ("terms", "section 2", "promise 17"), its blanks folded. */
     static String textOf(String part) {

@@ -11,6 +11,8 @@ import java.util.function.ToIntFunction;
  */
 public final class RefusalsTest {
     private static final int LEAST_ANSWER = -1000000000;
+    private static final String ORDER = "REFUSALS, of several the first in this order: UNKNOWN (a GLASS, BOAT, IMAGE that there is not; bits of such), "
+        + "OUTSIDE (another number out of its bounds), NOT (not now, as told), FULL.";
     private static final String[] WORDS = {"UNKNOWN", "OUTSIDE", "NOT", "FULL"};
     private static final int[] VALUES = {Edge.UNKNOWN, Edge.OUTSIDE, Edge.NOT, Edge.FULL};
 
@@ -181,7 +183,7 @@ public final class RefusalsTest {
     }
 
     private static void firstOf(String edge, Supplier<GladGlasses> object, ToIntFunction<GladGlasses> made, int refusal) {
-        Edge.of("terms", "REFUSALS, of several the first in this order", edge, () -> Edge.due(edge, made.applyAsInt(object.get()), refusal));
+        Edge.of("terms", ORDER, edge, () -> Edge.due(edge, made.applyAsInt(object.get()), refusal));
     }
 
     private static void order() {

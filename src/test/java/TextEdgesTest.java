@@ -218,6 +218,16 @@ public final class TextEdgesTest {
             fault("w1;b1 1 ", 1, 8);
             fault("w1;d1", 1, 5);
         });
+        Edge.of("section 1", "(the end at the text's length)", "figures at the end of 240 letters; figures of a longer text that was there before", () -> {
+            fault("w1;" + " ".repeat(236) + "g", 1, 240);
+            fault("w1;g1" + " ".repeat(234) + "1", 1, 240);
+            GladGlasses x = new GladGlasses();
+            Edge.feed(x, "w1234567;");
+            x.coast();
+            Edge.feed(x, "w1");
+            Edge.due("coast() of 'w1'", x.coast(), -11);
+            Edge.due("fault() of 'w1'", x.fault(), 2);
+        });
         Edge.of("section 1", "of these the least", "a letter with two faults", () -> {
             fault("w1;7777", 1, 3);
             fault("w1 99;", 1, 3);
@@ -249,8 +259,7 @@ public final class TextEdgesTest {
             x = Edge.on(Edge.COAST);
             Edge.due("coast()", x.coast(), 0);
             Edge.due("fault()", x.fault(), Edge.NONE);
-            Edge.due("told(0)", x.told(0), 0);
-            Edge.due("told(5)", x.told(5), Edge.NONE);
+            for (int what = 0; what < 16; what++) Edge.due("told(" + what + ")", x.told(what), what == 5 ? Edge.NONE : 0);
             Edge.due("glass(0, 0)", x.glass(0, 0), Edge.UNKNOWN);
             Edge.due("boat(0, 0)", x.boat(0, 0), Edge.UNKNOWN);
             Edge.due("day(1)", x.day(1), Edge.NOT);

@@ -67,12 +67,14 @@ public final class TriedEdgesTest {
             int[] days = {0, 1, 59, 60};
             for (int n : days) Edge.due("catches(0, " + n + ")", x.catches(0, n), n);
             for (int n : days) Edge.due("catches(1, " + n + "), the limit is too high", x.catches(1, n), 0);
+            for (int n = 60; n >= 0; n--) Edge.due("catches(0, " + n + "), from the most days down", x.catches(0, n), n);
         });
         Edge.of("section 3", "CATCHES: by how much a BOAT's CATCH is more behind n DAYS", "it is lost on the way, at once, already; it is held", () -> {
             GladGlasses x = Edge.on("w1,8,9;b0 5;b0 9;");
             Edge.due("catches(0, 2)", x.catches(0, 2), 17);
             Edge.due("catches(0, 3), lost on the third day", x.catches(0, 3), 17);
             Edge.due("catches(0, 60)", x.catches(0, 60), 17);
+            Edge.due("catches(0, 1), behind the call for more days", x.catches(0, 1), 8);
             Edge.due("catches(1, 60), lost at once", x.catches(1, 60), 0);
             x.day(1);
             Edge.due("catches(1, 60), lost already", x.catches(1, 60), 0);
@@ -184,6 +186,11 @@ public final class TriedEdgesTest {
             x = Edge.on("w9,0;g7 1;");
             Edge.due("error(0): 9 reads 9, 0 reads 2", x.error(0), 12);
         });
+        Edge.of("section 3", "is above or below tomorrow's WEATHER.", "tomorrow's on each of the days, around the numbers' end", () -> {
+            GladGlasses x = Edge.on("w4,9,0;g6 1;");
+            Edge.due("error(0): 9 and 9, 1 and 0, 5 and 4", x.error(0), 8);
+            Edge.due("error(NONE): 9 and 9, 1 and 0, 5 and 4", x.error(Edge.NONE), 8);
+        });
         Edge.of("promise 23", "ERROR: g = NONE THE ROW's.", "no glass, no weight, the cut", () -> {
             Edge.due("error(NONE), no glass", Edge.on("w9,1;").error(Edge.NONE), 48);
             Edge.due("error(NONE), no weight", Edge.on("w5;g9 0;").error(Edge.NONE), 0);
@@ -232,6 +239,10 @@ public final class TriedEdgesTest {
             weights("w4;" + Edge.times(7, "g5 1;"), 0, 0, 0, 0, 0, 0, 0, 1);
             weights("w4;g5 1;" + Edge.times(6, "g9 1;"), 0, 1, 0, 0, 0, 0, 0, 0);
             weights("w6;g6 0;g6 0;", 12, 0, 0);
+        });
+        Edge.of("section 3", "by which THE ROW's ERROR is least", "an error of 1, then one of 0; tomorrow's weather on each of the days", () -> {
+            weights("w5,5,5,5,5,5,5,5,5,5,5,6;g5 0;", 0, 1);
+            weights("w4,9,0;g5 0;g6 0;", 0, 1, 0);
         });
         Edge.of("section 3", "by which THE ROW's ERROR is least", "in the next 12 days, gladness running out", () -> {
             GladGlasses x = Edge.on("w3;g5 0;");
@@ -283,6 +294,12 @@ public final class TriedEdgesTest {
             x = Edge.on("w3;" + Edge.times(7, "g10 9;"));
             Edge.due("steps(8)", x.steps(8), 0);
             Edge.due("steps(9)", x.steps(9), Edge.NONE);
+        });
+        Edge.of("section 3", "so that THE ROW tells r (0 .. 9) today", "by tomorrow's weather, not by another day's", () -> {
+            GladGlasses x = Edge.on("w9,4,0;g5 1;");
+            Edge.due("steps(4)", x.steps(4), 0);
+            Edge.due("steps(9)", x.steps(9), 5);
+            Edge.due("steps(0)", x.steps(0), 4);
         });
         Edge.of("promise 26", "STEPS; NONE.", "gladness counts", () -> {
             GladGlasses x = Edge.on("w4;g5 1;");
@@ -364,6 +381,14 @@ public final class TriedEdgesTest {
             Edge.due("differ(1): 0 and 9", Edge.on("w5;g0 1;g10 1;").differ(1), 9);
             Edge.due("differ(1): 9 and 9", Edge.on("w9;g5 1;g10 1;").differ(1), 0);
         });
+        Edge.of("section 3", "that READ most unlike today", "today, by tomorrow's weather; gladness of one day", () -> {
+            GladGlasses x = Edge.on("w5,9,0;g0 1;g10 1;");
+            Edge.due("differ(1): 4 and 9", x.differ(1), 5);
+            x.glad(0, 1);
+            Edge.due("differ(1): 6 and 9", x.differ(1), 3);
+            x.day(1);
+            Edge.due("differ(1): 0 and 5", x.differ(1), 5);
+        });
     }
 
     private static void fairness() {
@@ -403,6 +428,17 @@ public final class TriedEdgesTest {
         });
     }
 
+    private static void fairOrNever() {
+        Edge.of("promise 29", "FAIR; NONE.", "never so fair, never so long, always", () -> {
+            GladGlasses x = Edge.on("w8,8,7;");
+            Edge.due("fair(9, 1)", x.fair(9, 1), Edge.NONE);
+            Edge.due("fair(8, 2)", x.fair(8, 2), 0);
+            Edge.due("fair(8, 3)", x.fair(8, 3), Edge.NONE);
+            Edge.due("fair(7, 12)", x.fair(7, 12), 0);
+            Edge.due("fair(1, 1) of 0", Edge.on("w0;").fair(1, 1), Edge.NONE);
+        });
+    }
+
     private static void falseness() {
         Edge.of("section 3", "that READ otherwise today than they would, were they not GLAD.", "at 9 and at 0 gladness changes nothing, just beside them it does", () -> {
             GladGlasses x = Edge.on("w9;g4 1;g5 1;g10 1;g0 1;");
@@ -412,6 +448,13 @@ public final class TriedEdgesTest {
             x = Edge.on("w0;g0 1;g3 1;g4 1;g5 1;");
             for (int g = 0; g < 4; g++) x.glad(g, 1);
             Edge.due("falseOnes()", x.falseOnes(), 12);
+        });
+        Edge.of("section 3", "that READ otherwise today than they would, were they not GLAD.", "by tomorrow's weather", () -> {
+            GladGlasses x = Edge.on("w9,0;g5 1;");
+            x.glad(0, 2);
+            Edge.due("falseOnes(): 2, not 0", x.falseOnes(), 1);
+            x.day(1);
+            Edge.due("falseOnes(): 9, as 9", x.falseOnes(), 0);
         });
         Edge.of("promise 30", "FALSE.", "no glass, all seven, the day behind", () -> {
             Edge.due("falseOnes(), no glass", Edge.on("w1;").falseOnes(), 0);
@@ -490,6 +533,7 @@ public final class TriedEdgesTest {
         truth();
         differing();
         fairness();
+        fairOrNever();
         falseness();
         rules();
         odds();
